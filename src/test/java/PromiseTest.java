@@ -1,0 +1,1 @@
+final class PromiseTest { static void run(Checks c) {} }

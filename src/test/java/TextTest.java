@@ -1,0 +1,1 @@
+final class TextTest { static void run(Checks c) {} }
