@@ -785,10 +785,10 @@ public final class CreditBeams {
             }
         }
 
-        private void findReach(int word, int cue) {
+        private void findReach(int word, int letters, int cue) {
             int row = credits.ofWord(word, ROW) * BEATS;
             int column = credits.ofWord(word, COLUMN);
-            int all = allLetters(word);
+            int all = allOf(letters);
             for (int beat = 0; beat < BEATS; beat++) {
                 int index = row + beat;
                 boolean can = beat >= cue && index >= 0 && index < light.length;
@@ -796,8 +796,8 @@ public final class CreditBeams {
             }
         }
 
-        private int allLetters(int word) {
-            return (1 << credits.ofWord(word, LETTERS)) - 1;
+        private static int allOf(int letters) {
+            return (1 << letters) - 1;
         }
 
         // -- letters and words
@@ -810,23 +810,24 @@ public final class CreditBeams {
 
         /** Finds what a word shows, with a cue that need not be its own. */
         void settle(int word, int cue) {
-            findReach(word, cue);
-            putLit(word, allLetters(word), NONE);
+            int letters = credits.ofWord(word, LETTERS);
+            findReach(word, letters, cue);
+            putLit(word, allOf(letters), NONE);
             switch (credits.ofWord(word, RULE)) {
                 case RULE_IN_TURN:
-                    lightInTurn(word);
+                    lightInTurn(word, letters);
                     break;
                 case RULE_TOGETHER:
-                    lightTogether(word);
+                    lightTogether(word, letters);
                     break;
                 default:
-                    lightEach(word);
+                    lightEach(word, letters);
             }
-            finish(word);
+            finish(word, letters);
         }
 
-        private void lightEach(int word) {
-            int dark = allLetters(word);
+        private void lightEach(int word, int letters) {
+            int dark = allOf(letters);
             for (int beat = 0; beat < BEATS && dark != 0; beat++) {
                 int fresh = reach[beat] & dark;
                 putLit(word, fresh, beat);
@@ -834,8 +835,7 @@ public final class CreditBeams {
             }
         }
 
-        private void lightInTurn(int word) {
-            int letters = credits.ofWord(word, LETTERS);
+        private void lightInTurn(int word, int letters) {
             int next = 0;
             for (int beat = 0; beat < BEATS && next < letters; beat++) {
                 while (next < letters && (reach[beat] >> next & 1) == 1) {
@@ -845,14 +845,13 @@ public final class CreditBeams {
             }
         }
 
-        private void lightTogether(int word) {
-            int letters = credits.ofWord(word, LETTERS);
+        private void lightTogether(int word, int letters) {
             int remembered = credits.setting(REMEMBERED);
             Arrays.fill(latest, NONE);
             for (int beat = 0; beat < BEATS; beat++) {
                 int oldest = oldestReach(letters, reach[beat], beat);
                 if (oldest != NONE && oldest >= beat - remembered) {
-                    putLit(word, allLetters(word), beat);
+                    putLit(word, allOf(letters), beat);
                     return;
                 }
             }
@@ -865,7 +864,7 @@ public final class CreditBeams {
                 if ((reached >> letter & 1) == 1) {
                     latest[letter] = beat;
                 }
-                oldest = Math.min(oldest, latest[letter]);
+                oldest = latest[letter] < oldest ? latest[letter] : oldest;
             }
             return oldest;
         }
@@ -879,23 +878,24 @@ public final class CreditBeams {
             }
         }
 
-        private void finish(int word) {
+        /** Finds from when on a word is whole, and when it goes. */
+        private void finish(int word, int letters) {
             if (word < 0 || word >= whole.length || word >= ends.length) {
                 return;
             }
             int last = 0;
-            for (int letter = 0; letter < credits.ofWord(word, LETTERS); letter++) {
+            for (int letter = 0; letter < letters; letter++) {
                 int beat = litBeat(word, letter);
                 last = beat == NONE ? BEATS : Math.max(last, beat);
             }
+            int stay = Math.max(credits.ofWord(word, HOLD), 1);
             whole[word] = last < BEATS ? last : NONE;
-            ends[word] = barFrom(last, credits.ofWord(word, HOLD));
+            ends[word] = nextBar(last + stay, credits.setting(BAR));
         }
 
-        /** The beginning of a bar at which a word goes that is whole from a beat on, or BEATS. */
-        private int barFrom(int wholeBeat, int hold) {
-            int bar = credits.setting(BAR);
-            for (int beat = wholeBeat + Math.max(hold, 1); beat < BEATS; beat++) {
+        /** The first beginning of a bar from a beat on, or BEATS. */
+        private static int nextBar(int from, int bar) {
+            for (int beat = from; beat < BEATS; beat++) {
                 if (bar > 0 && beat % bar == 0) {
                     return beat;
                 }
