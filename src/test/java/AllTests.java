@@ -6,6 +6,7 @@ public final class AllTests {
     public static void main(String[] arguments) {
         Checks check = new Checks();
         FaceTest.run(check);
+        LanguageTest.run(check);
         PromiseTest.run(check);
         TextTest.run(check);
         ModelTest.run(check);

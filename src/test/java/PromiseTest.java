@@ -22,6 +22,7 @@ final class PromiseTest {
         test.beam();
         test.turn();
         test.removeBeam();
+        test.nothingLeft();
         test.set();
         test.append();
         test.clearBuffer();
@@ -271,6 +272,31 @@ final class PromiseTest {
         CreditBeams y = scene();
         y.removeBeam(0);
         check.same("letters that are lit without beams", 0, y.count(3));
+    }
+
+    /** What has been removed shows nowhere any more. */
+    private void nothingLeft() {
+        CreditBeams x = scene();
+        x.word(12, 0, 5, 0);
+        x.word(12, 0, 7, 0);
+        x.beam(3, 9, 0, 9, 255);
+        check.same("seen", 2, x.seen(10, 0, 9));
+        x.removeBeam(1);
+        x.removeWord(3);
+        x.removeWord(2);
+        CreditBeams y = scene();
+        for (int i = 0; i < 6; i++) {
+            y.cue(0, 0);
+        }
+        check.isTrue("all is as if it had never been", Looks.all(y).equals(Looks.all(x)));
+        for (int beat = 5; beat < 30; beat++) {
+            check.same("seen in the beat " + beat, -1, x.seen(beat, 0, 9));
+        }
+        x.removeWord(0);
+        x.removeWord(0);
+        check.row("counts", row(0, 1, 0, 0, 0, -1, 200, 0, 0, 6), Looks.counts(x));
+        check.row("beat", row(0, 0, 0, 0, 1), Looks.beat(x, 12));
+        check.isTrue("share", x.litShare() == 1.0);
     }
 
     private void set() {
@@ -531,6 +557,8 @@ final class PromiseTest {
         y.rule(0, 2, 0);
         y.beam(0, 0, 0, 1, 1);
         check.row("in the first beat", row(0), Looks.lit(y, 0));
+        y.rule(0, 1, 0);
+        check.row("in the first beat by rule 1", row(0), Looks.lit(y, 0));
     }
 
     private void beamOf() {
@@ -684,6 +712,12 @@ final class PromiseTest {
         check.same("slowly on", 10, x.bestSpeed(0, 10));
         check.same("slowly back", 7, x.bestSpeed(0, 18));
         check.same("too late", 7, x.bestSpeed(198, 12));
+        check.same("back from the edge", 7, x.bestSpeed(0, 59));
+        x.cue(0, 199);
+        check.same("none", 0, x.bestSpeed(0, 0));
+        x.removeWord(0);
+        x.word(1, 0, 40, 0);
+        check.same("as fast as can be", 18, x.bestSpeed(198, 30));
         CreditBeams y = new CreditBeams();
         y.word(3, 5, 21, 0);
         check.same("the lowest", 0, y.bestSpeed(198, 30));
@@ -742,6 +776,11 @@ final class PromiseTest {
         check.isTrue("without letters", x.litShare() == 1.0);
         x.word(3, 0, 10, 0);
         check.isTrue("none", x.litShare() == 0.0);
+        x.removeWord(0);
+        x.word(1, 0, 0, 0);
+        check.isTrue("not the only one", x.litShare() == 0.0);
+        x.removeWord(0);
+        x.word(3, 0, 10, 0);
         x.beam(0, 10, 0, 1, 255);
         check.isTrue("a third", x.litShare() == 1.0 / 3.0);
         x.beam(0, 11, 0, 1, 255);
@@ -770,6 +809,15 @@ final class PromiseTest {
         y.beam(20, 30, -2, 5, 77);
         y.word(12, 7, 3, 0);
         check.same("more", digestOf(y, "w1~!", 9, 11), y.digest());
+        CreditBeams half = new CreditBeams();
+        half.word(2, 0, 10, 0);
+        half.beam(0, 10, 0, 1, 255);
+        check.same("a half", digestOf(half, "", 4, 4), half.digest());
+        for (int[] w : new int[][] {{10, 11}, {0, 100}, {0, 0}, {59, 0}, {20, 20}}) {
+            CreditBeams one = new CreditBeams();
+            one.word(1, 0, w[0], w[1]);
+            check.same("one letter at " + w[0], digestOf(one, "", 4, 4), one.digest());
+        }
         // Of every number of lit letters out of every number of letters.
         for (int letters = 1; letters <= 96; letters++) {
             CreditBeams z = new CreditBeams();
