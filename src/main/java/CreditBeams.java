@@ -500,6 +500,7 @@ public final class CreditBeams {
     }
 
     private boolean tellsCredits() {
+        // firstError leaves the reader behind the last character.
         return firstError() == bufferLength && reader.feed(';') == OrderReader.ORDER;
     }
 
@@ -1052,7 +1053,7 @@ public final class CreditBeams {
             }
         }
 
-        /** The first beat in which two words clash; they go on to till one of them goes. */
+        /** The first beat in which two words clash; from it on they do until one of them goes. */
         private int firstClash(int word, int other) {
             if (credits.ofWord(word, ROW) != credits.ofWord(other, ROW)) {
                 return NONE;

@@ -665,6 +665,8 @@ final class PromiseTest {
         y.word(1, 0, 13, 0);
         y.word(1, 1, 12, 0);
         check.row("two pairs at once", row(5, 1, 8, 8, 5, 0, 196, 4, 2, 6), Looks.counts(y));
+        y.cue(0, 100);
+        check.same("the first word is whole last", 100, y.count(5));
         for (int what : row(-1, 10, LEAST, MOST)) {
             check.refuses("count " + what, y, ARGUMENT, () -> y.count(what));
         }
