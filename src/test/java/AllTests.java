@@ -8,7 +8,12 @@ public final class AllTests {
         FaceTest.run(check);
         LanguageTest.run(check);
         PromiseTest.run(check);
+        TermsEdgeTest.run(check);
+        LightEdgeTest.run(check);
+        UndoEdgeTest.run(check);
+        PromiseEdgeTest.run(check);
         TextTest.run(check);
+        TextEdgeTest.run(check);
         ModelTest.run(check);
         System.out.println(check.passed() + " passed, " + check.failed() + " failed");
         if (check.failed() != 0 || check.passed() == 0) {

@@ -38,6 +38,8 @@ final class LanguageTest {
             check.isTrue(at + " saying nothing strange", !STRANGE.matcher(code).find());
             boolean library = !CALL.matcher(code.replaceAll(GOOD_CALL.pattern(), "")).find();
             check.isTrue(at + " calling the library that is allowed", library || line.startsWith("import"));
+            boolean made = code.matches(".*\\bnew\\b.*") && !code.contains("throw new ");
+            check.isTrue(at + " making objects with their owner alone", !made || code.matches(" +private final .*"));
             if (line.isEmpty()) {
                 check.isTrue(at + " ending a part that is short", i - start <= LONGEST_METHOD);
                 start = i;
