@@ -92,6 +92,10 @@ final class PromiseEdgeTest {
         check.row("beat 0", row(96, 8, 8, 28, 6), Looks.beat(x, 0));
         check.row("beat 3", row(96, 8, 8, 28, 6), Looks.beat(x, 3));
         check.row("beat 4", row(0, 0, 0, 0, 6), Looks.beat(x, 4));
+        x.rule(7, 2, 50);
+        check.row("beat 4, the last one being held", row(12, 1, 1, 0, 6), Looks.beat(x, 4));
+        check.same("letters of a beam, by the rule 2, too", 7 * 2 + 12, x.beamOf(0, 6));
+        x.rule(7, 0, 4);
         check.row("what one more beam brings", row(8, 96, 4),
                 x.ifBeam(0, 48, 0, 9, 0), x.ifBeam(0, 48, 0, 9, 1), x.ifBeam(0, 48, 0, 9, 2));
         for (int beam = 0; beam < 6; beam++) {

@@ -29,6 +29,7 @@ final class UndoEdgeTest {
         test.atMost6States();
         test.oldestIsDropped();
         test.undoIsNotUndone();
+        test.backToTheNewObject();
         test.settingsAndOrderComeBack();
         test.refusedCallsChangeNothing();
         test.firstNamedIsThrown();
@@ -218,6 +219,22 @@ final class UndoEdgeTest {
         check.same("one back from another one", 0, x.wordOf(0, 3));
         check.same("left", 0, x.undo());
         check.refuses("undo with none left", x, STATE, x::undo);
+    }
+
+    private void backToTheNewObject() {
+        check.topic("Restores the latest saved state: that of the new object, too");
+        for (int calls = 1; calls <= 6; calls++) {
+            CreditBeams x = new CreditBeams();
+            for (int call = 0; call < calls; call++) {
+                x.word(1, 0, call, 0);
+            }
+            for (int left = calls - 1; left >= 0; left--) {
+                check.same("left", left, x.undo());
+            }
+            check.isTrue("all as at first", Looks.all(x).equals(Looks.all(new CreditBeams())));
+            check.same("the setting 0", 4, x.set(0, 9));
+            check.same("the setting 1", 4, x.set(1, 9));
+        }
     }
 
     private void settingsAndOrderComeBack() {
