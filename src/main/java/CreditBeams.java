@@ -345,6 +345,7 @@ public final class CreditBeams {
             case 1:
                 return trial.litLetters();
             default:
+                trial.findClashes();
                 return trial.clashBeats();
         }
     }
@@ -456,7 +457,6 @@ public final class CreditBeams {
         trial.takeLight(shown);
         trial.shine(beat, column, speed, width, ALL_ROWS);
         trial.settleAll();
-        trial.findClashes();
     }
 
     /** Letters that are lit at some time as it is, but not on trial. */
@@ -585,7 +585,7 @@ public final class CreditBeams {
         return hash;
     }
 
-    /** The bits of a share of 0 to 1, by hand: the library that is allowed has no doubleToLongBits. */
+    /** The bits of a share of 0 to 1, by hand: doubleToLongBits is no library that is allowed. */
     private static long shareBits(double share) {
         if (share <= 0.0) {
             return 0;
@@ -975,7 +975,11 @@ public final class CreditBeams {
             if (letter < 0 || letter >= credits.ofWord(word, LETTERS)) {
                 return false;
             }
-            int since = litBeat(word, letter);
+            return isThere(word, litBeat(word, letter), beat);
+        }
+
+        /** What came to a word in a beat, NONE if never, is there from then until the word goes. */
+        private boolean isThere(int word, int since, int beat) {
             return since != NONE && since <= beat && beat < endOf(word);
         }
 
@@ -1000,7 +1004,7 @@ public final class CreditBeams {
         int seenWords(int beat) {
             int words = 0;
             for (int word = 0; word < credits.words(); word++) {
-                if (seenLettersOf(word, beat) > 0) {
+                if (isThere(word, firstLit(word), beat)) {
                     words++;
                 }
             }
@@ -1011,8 +1015,7 @@ public final class CreditBeams {
         int standingWords(int beat) {
             int words = 0;
             for (int word = 0; word < credits.words(); word++) {
-                int since = wholeFrom(word);
-                if (since != NONE && since <= beat && beat < endOf(word)) {
+                if (isThere(word, wholeFrom(word), beat)) {
                     words++;
                 }
             }

@@ -12,6 +12,7 @@ public final class AllTests {
         LightEdgeTest.run(check);
         UndoEdgeTest.run(check);
         PromiseEdgeTest.run(check);
+        ReadmeTest.run(check);
         TextTest.run(check);
         TextEdgeTest.run(check);
         ModelTest.run(check);

@@ -21,6 +21,7 @@ final class PromiseEdgeTest {
         test.lettersOfAWord();
         test.beatsOfABeam();
         test.lettersOfABeam();
+        test.wordsShineOnNothing();
         test.lowestWordInAPlace();
         test.lastBeatOfGettingWhole();
         test.beatsWithNothing();
@@ -287,6 +288,27 @@ final class PromiseEdgeTest {
         check.same("of eight words", 36, z.beamOf(0, 6));
         z.removeWord(7);
         check.same("of seven words", 28, z.beamOf(0, 6));
+    }
+
+    private void wordsShineOnNothing() {
+        check.topic("promises 17 and 18: the beams that there are, and no word, light or cover columns");
+        CreditBeams x = new CreditBeams();
+        for (int word = 0; word < 8; word++) {
+            x.word(1, 0, 20, 0);
+            x.rule(word, 2, 50);
+        }
+        for (int beat = 0; beat <= 199; beat++) {
+            check.row("without a beam in " + beat, row(0, 0, 0, 0, 0), Looks.beat(x, beat));
+        }
+        for (int hold = 0; hold <= 50; hold++) {
+            for (int word = 0; word < 8; word++) {
+                x.rule(word, 2, hold);
+            }
+            x.beam(9, 20, 0, 1, 255);
+            check.same("letters of the only beam, hold " + hold, 8, x.beamOf(0, 6));
+            check.row("beams in its first beat and ahead of it", row(1, 0), x.beat(9, 4), x.beat(8, 4));
+            x.removeBeam(0);
+        }
     }
 
     private void lowestWordInAPlace() {
